@@ -22,6 +22,11 @@ final class Texts {
     private Texts() {
     }
 
+    /** Without the blanks that no two TOKENS need between them. */
+    static String tight(String text) {
+        return text.replaceAll("(?<=[a-z]) (?=[0-9])|(?<=[0-9]) (?=[a-z])", "");
+    }
+
     static int tell(SaltedGate x, String text) {
         feedAll(x, text);
         return x.barrier(text.length());
