@@ -2,6 +2,7 @@ import java.io.IOException;
 import java.io.UncheckedIOException;
 import java.nio.file.Files;
 import java.nio.file.Path;
+import java.util.Arrays;
 import java.util.LinkedHashMap;
 import java.util.Map;
 import java.util.function.Supplier;
@@ -20,7 +21,7 @@ final class Edges {
     private int wrong;
     private int asked;
 
-    /** Of which parts the test is: 'Promise 7', 'Terms II', 'Use', 'Constants'. */
+    /** Of which parts the test is: 'Promise 7', 'Terms II', 'Terms III, acts', 'Use', 'Constants'. */
     Edges(String... names) {
         String document = document();
         for (String name : names) {
@@ -30,10 +31,11 @@ final class Edges {
         }
     }
 
-    static Edges ofPromises(int first, int last) {
-        String[] names = new String[last - first + 1];
-        for (int i = 0; i < names.length; i++) {
-            names[i] = "Promise " + (first + i);
+    static Edges ofPromises(int first, int last, String... others) {
+        int many = last - first + 1;
+        String[] names = Arrays.copyOf(others, others.length + many);
+        for (int i = 0; i < many; i++) {
+            names[others.length + i] = "Promise " + (first + i);
         }
         return new Edges(names);
     }
@@ -58,8 +60,12 @@ final class Edges {
                 return between(document, "I. THE TEXT", "II. AGE");
             case "Terms II":
                 return between(document, "II. AGE", "III. From NOW");
-            case "Terms III":
-                return between(document, "III. From NOW", "IV. TROUBLE");
+            case "Terms III, what is best":
+                return between(document, "III. From NOW", "THE OTHER LAW:");
+            case "Terms III, sums":
+                return between(document, "THE OTHER LAW:", "ACTS:");
+            case "Terms III, acts":
+                return between(document, "ACTS:", "IV. TROUBLE");
             case "Terms IV":
                 return between(document, "IV. TROUBLE", "The constants:");
             default:
