@@ -245,6 +245,19 @@ public final class EdgesOfActsTest {
             SaltedGate after = behind("days 3", "mark", "eat 5", call, "undo").get();
             EDGES.is(call + " is undone behind others", Snapshot.of(after).equals(Snapshot.of(behind("days 3", "mark", "eat 5").get())));
         }
+        // what others paid stays as it was
+        SaltedGate paid = behind("cross 2 1", "cross 1 0", "cross 0 0", "mark", "days 1", "undo").get();
+        int[] sums = {45, 9, 1};
+        for (int back = 0; back <= 3; back++) {
+            for (int t = 0; t < 3; t++) {
+                EDGES.due(paid, t < back ? 0 : sums[t], "traveller", t, 2);
+            }
+            EDGES.same("undo()", paid.undo() ? 1 : 0, back < 3 ? 1 : 0);
+        }
+        EDGES.due(paid, 1, "back", 0);
+        for (int t = 0; t < 3; t++) {
+            EDGES.due(paid, sums[t], "traveller", t, 2);
+        }
         EDGES.is("undone, then another", Snapshot.of(behind("eat 0", "eat 1", "undo", "eat 2").get())
                 .equals(Snapshot.of(behind("eat 0", "eat 2").get())));
     }

@@ -167,6 +167,7 @@ public final class EdgesOfBarrierTest {
         Texts.feedAll(y, Texts.tight(Scenes.FULLEST));
         EDGES.due(y, 8, "barrier", Texts.tight(Scenes.FULLEST).length());
         EDGES.is("as if it were the first", Snapshot.of(y).equals(Snapshot.of(Scenes.fullest())));
+        behindOthers();
 
         EDGES.promise(3, "NONE: 2 (THE TAPE stays);");
         int bytes = fed().size(12);
@@ -187,6 +188,28 @@ public final class EdgesOfBarrierTest {
         EDGES.same("no byte is a number that is right", none.barrier(0), -1);
         EDGES.due(none, 4, "trouble");
         EDGES.due(none, 0, "where");
+    }
+
+    /** Whatever was told ahead of it, by texts with FAULTS too, a BARRIER is as if it were the first. */
+    private static void behindOthers() {
+        String[] texts = {Texts.FULL, Texts.tight(Scenes.FULLEST), Texts.SMALL};
+        for (String first : texts) {
+            for (String second : texts) {
+                for (String last : texts) {
+                    for (String between : new String[] {"", "odd", FAULTY}) {
+                        SaltedGate x = Texts.told(first);
+                        x.days(3);
+                        x.mark();
+                        Texts.tell(x, between);
+                        Texts.tell(x, second);
+                        x.days(9);
+                        Texts.tell(x, between);
+                        Texts.tell(x, last);
+                        EDGES.is("as if it were the first, behind others", Snapshot.of(x).equals(Snapshot.of(Texts.told(last))));
+                    }
+                }
+            }
+        }
     }
 
     /** Told again behind a FAULT, the BARRIER is what it was; only fault(), where() and THE TAPE tell of it. */

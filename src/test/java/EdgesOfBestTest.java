@@ -67,6 +67,21 @@ public final class EdgesOfBestTest {
         cheapest(gates, 1, 0, 0, 3 * 8 + 19);
         cheapest(gates, 1, 1, 0, 19);
         cheapest(Scenes.small(), 0, 0, 0, 0);
+        // found by g up to its turning, never by h
+        SaltedGate hidden = told(";good a plain u by m age 20 weighs 8 worth 1;good b oath u by n age 0 weighs 1 worth 1;hides a");
+        cheapest(hidden, 1, 0, 31, 3);
+        cheapest(hidden, 1, 1, 0, 0);
+        SaltedGate always = told(";good a oath u by n age 90 weighs 9 worth 1;good b plain u by m age 20 weighs 2 worth 1;hides a");
+        cheapest(always, 1, 0, 0, 3 * 81 + 12);
+        cheapest(always, 1, 1, 31, 0);
+        // of his goods alone, that he has
+        SaltedGate others = told(";good a oath u by n age 5 weighs 1 worth 1;good b plain t by m age 45 weighs 9 worth 1;good c plain u by m age 45 weighs 9 worth 1");
+        cheapest(others, 1, 0, 6, 1);
+        others.eat(2);
+        cheapest(others, 1, 0, 0, 0);
+        cheapest(others, 0, 0, 6, 0);
+        SaltedGate dear = told(";good a plain u by m age 20 weighs 2 worth 1;good b oath t by n age 300 weighs 9 worth 1");
+        cheapest(dear, 1, 0, 31, 0);
         for (String name : new String[] {"cheapestDay", "cheapest"}) {
             EDGES.promise(name.equals("cheapest") ? 22 : 21, "NONE: 1.");
             EDGES.bounds(Scenes::midst, 1, name, new int[] {0, 0}, 0, 0, 1);
@@ -78,10 +93,14 @@ public final class EdgesOfBestTest {
     }
 
     private static void eats(SaltedGate x, int t, int days, int bits, int asked) {
+        eatsBy(x, t, 0, days, bits, asked);
+    }
+
+    private static void eatsBy(SaltedGate x, int t, int gate, int days, int bits, int asked) {
         EDGES.promise(23, "EAT, as bits.");
-        EDGES.due(x, bits, "eats", t, 0, days);
+        EDGES.due(x, bits, "eats", t, gate, days);
         EDGES.promise(24, "What is asked then.");
-        EDGES.due(x, asked, "eatsAsked", t, 0, days);
+        EDGES.due(x, asked, "eatsAsked", t, gate, days);
     }
 
     private static void eating() {
@@ -111,6 +130,24 @@ public final class EdgesOfBestTest {
         eats(turned, 1, 10, 12, 45);
         eats(turned, 1, 11, 0, 0);
         eats(Scenes.small(), 0, 0, 0, 0);
+        // all that he has: one, and as many as his hunger
+        eats(told(";good a oath u by m age 40 weighs 1 worth 1"), 1, 0, 1, 0);
+        eats(told(";good a oath u by m age 40 weighs 1 worth 1;good b oath u by m age 40 weighs 1 worth 1"), 1, 0, 3, 0);
+        // what is hidden and not found costs nothing, so none is eaten; found, it is
+        SaltedGate hidden = told(";good a oath u by m age 40 weighs 5 worth 1;good b oath u by n age 40 weighs 6 worth 1;hides a;hides b");
+        eats(hidden, 1, 0, 2, 0);
+        eats(hidden, 1, 10, 3, 0);
+        eats(told(";good a oath u by m age 40 weighs 5 worth 1;hides a"), 1, 9, 0, 0);
+        // by g the hidden one is found, by h it isn't
+        SaltedGate gates = told(";good a oath u by n age 90 weighs 9 worth 1;good b oath u by m age 40 weighs 1 worth 1;good c oath u by m age 40 weighs 2 worth 1;hides a");
+        eatsBy(gates, 1, 0, 0, 5, 12);
+        eatsBy(gates, 1, 1, 0, 6, 0);
+        SaltedGate one = told(";good a oath u by n age 90 weighs 9 worth 1;hides a");
+        eatsBy(one, 1, 0, 0, 1, 0);
+        eatsBy(one, 1, 1, 0, 0, 0);
+        // what others have is nothing to him
+        SaltedGate others = told(";good a fresh u age 0 weighs 1 worth 1;good b oath t by n age 300 weighs 9 worth 1");
+        eats(others, 1, 0, 0, 0);
         for (String name : new String[] {"eats", "eatsAsked"}) {
             EDGES.promise(name.equals("eats") ? 23 : 24, "NONE: 1; 2.");
             refusalsOfCrossing(name);
@@ -159,6 +196,10 @@ public final class EdgesOfBestTest {
         SaltedGate covered = told(";good a oath u by n age 10 weighs 9 worth 1;good b fresh u age 0 weighs 1 worth 1");
         hides(covered, 1, 0, 3, 1, 0);
         hides(covered, 1, 0, 4, 0, 9);
+        covered.eat(1);
+        hides(covered, 1, 0, 0, 0, 9);
+        SaltedGate others = told(";good a fresh u age 0 weighs 1 worth 1;good b oath t by n age 300 weighs 9 worth 1");
+        hides(others, 1, 0, 0, 0, 0);
         hides(Scenes.small(), 0, 0, 0, 0, 0);
         for (String name : new String[] {"hideBest", "hideAsked"}) {
             EDGES.promise(name.equals("hideBest") ? 25 : 26, "NONE: 1; 2.");
@@ -205,8 +246,20 @@ public final class EdgesOfBestTest {
         EDGES.due(had, 3, "cover", 1, 0, 0);
         EDGES.due(had, 4, "cover", 1, 0, 1);
         EDGES.due(had, 5, "cover", 1, 0, 4);
+        had.eat(1);
+        EDGES.due(had, 4, "cover", 1, 0, 0);
         had.cross(1, 0);
         EDGES.due(had, 0, "cover", 1, 0, 0);
+        // the strongest of the hidden ones, whichever it is
+        SaltedGate two = told(";good a plain u by n age 0 weighs 1 worth 1;good b plain u by n age 10 weighs 9 worth 1;good c plain u by n age 90 weighs 9 worth 1;hides a;hides b");
+        EDGES.due(two, 1, "cover", 1, 0, 0);
+        two.hide(2, true);
+        EDGES.due(two, 5, "cover", 1, 0, 0);
+        two.hide(1, false);
+        two.hide(2, false);
+        EDGES.due(two, 0, "cover", 1, 0, 0);
+        SaltedGate shown = told(";good a plain u by n age 0 weighs 1 worth 1;good b plain u by n age 90 weighs 9 worth 1;hides a");
+        EDGES.due(shown, 0, "cover", 1, 0, 0);
         EDGES.due(Scenes.small(), 0, "cover", 0, 0, 0);
         EDGES.promise(27, "NONE: 1; 2.");
         refusalsOfCrossing("cover");
@@ -247,6 +300,13 @@ public final class EdgesOfBestTest {
         holds(dear, 0, 0, -9);
         holds(dear, 1, 0, 20);
         holds(dear, 2, 1, -9);
+        // it turns behind a day, for a fee of 1: a DUTY of 1 is as good, and first; of 2 or 3 it is worse
+        SaltedGate near = Texts.told(HEAD.replace("rate 0 or", "rate 1 or") + ";good a plain t by o age 10 weighs 1 worth 0"
+                + ";good b plain t by o age 10 weighs 2 worth 0;good c plain t by o age 10 weighs 3 worth 0;good d plain t by o age 10 weighs 3 worth 2");
+        holds(near, 0, 0, -1);
+        holds(near, 1, 1, -1);
+        holds(near, 2, 1, -1);
+        holds(near, 3, 0, -1);
         EDGES.promise(28, "NONE: 1.");
         EDGES.bounds(Scenes::midst, 1, "hold", new int[] {0}, 0, 0, 4);
         EDGES.bounds(Scenes::fullest, 1, "hold", new int[] {0}, 0, 0, 7);
@@ -279,6 +339,16 @@ public final class EdgesOfBestTest {
         EDGES.due(y, 0, "gain", 1, 1);
         y.eat(0);
         EDGES.due(y, -36, "gain", 0, 0);
+        // another BARRIER's prices are gone with it
+        String priced = HEAD + ";good a plain t by o age 0 weighs 9 worth 1;price o here 7 there 3";
+        SaltedGate again = Texts.told(priced);
+        EDGES.due(again, -36, "gain", 0, 10);
+        EDGES.due(again, -63, "gain", 0, 11);
+        for (int i = 0; i < 2; i++) {
+            Texts.tell(again, priced.replaceAll(";price.*", ""));
+            EDGES.due(again, 0, "gain", 0, 10);
+            EDGES.due(again, 0, "gain", 0, 11);
+        }
         EDGES.promise(30, "-10,000: 1; 2.");
         EDGES.bounds(Scenes::midst, 1, "gain", new int[] {0, 0}, 0, 0, 4);
         EDGES.bounds(Scenes::fullest, 1, "gain", new int[] {0, 60}, 0, 0, 7);

@@ -236,6 +236,25 @@ public final class EdgesOfDaysTest {
         none.hide(1, false);
         EDGES.due(none, 0, "nearest", 0, 1, 0);
         EDGES.due(Scenes.small(), -2, "nearest", 0, 0, 0);
+        // covered by what he has, hidden or not, up to the nose
+        SaltedGate covered = told(";good a plain t by n age 80 weighs 3 worth 1;good b fresh t age 0 weighs 1 worth 1;hides a");
+        EDGES.due(covered, 0, "nearest", 0, 0, 0);
+        EDGES.due(covered, 0, "nearest", 0, 0, 3);
+        EDGES.due(covered, -2, "nearest", 0, 0, 4);
+        covered.eat(1);
+        EDGES.due(covered, -2, "nearest", 0, 0, 0);
+        // smells 1 and 2, or 0 and 0 by a fresh one
+        SaltedGate least = told(";good a plain t by n age 0 weighs 1 worth 1;good b plain t by n age 0 weighs 2 worth 1;good c fresh t age 0 weighs 1 worth 1;hides a;hides b");
+        EDGES.due(least, 0, "nearest", 0, 0, 0);
+        EDGES.due(least, 0, "nearest", 0, 0, 3);
+        EDGES.due(least, 1, "nearest", 0, 0, 4);
+        least.eat(2);
+        EDGES.due(least, 1, "nearest", 0, 0, 0);
+        // alike on this day, the second one more on the next
+        SaltedGate next = told(";good a plain t by n age 0 weighs 1 worth 1;good b plain t by n age 9 weighs 1 worth 1;hides a;hides b");
+        EDGES.due(next, 0, "nearest", 0, 0, 0);
+        EDGES.due(next, 1, "nearest", 0, 0, 1);
+        EDGES.due(next, 0, "nearest", 0, 0, 10);
         SaltedGate last = Texts.told(Texts.SMALL + ";good a fresh t age 300 weighs 1 worth 1;hides a");
         EDGES.due(last, -2, "nearest", 0, 0, 0);
         EDGES.promise(19, "NONE: 1; 2.");
@@ -259,6 +278,14 @@ public final class EdgesOfDaysTest {
         SaltedGate w = Texts.told(Texts.SMALL.replace("nose 12", "nose 1") + ";gate h nose 3 opens 3 shuts 3;gate k nose 3 opens 4 shuts 4"
                 + ";means m rate 9 or 9 keeps 300;good a plain t by m age 10 weighs 1 worth 1;hides a");
         EDGES.due(w, 1, "bestGate", 0, 0);
+        // by the rates, not the other ones: those would be 9 for 1, or 0 for 9
+        SaltedGate dearer = told(";good a oath u by n age 100 weighs 1 worth 1;good b oath u by m age 10 weighs 9 worth 1;hides b");
+        EDGES.due(dearer, 10 + 81, "asked", 1, 0, 0);
+        EDGES.due(dearer, 10, "asked", 1, 2, 0);
+        EDGES.due(dearer, 90, "otherLaw", 1, 2, 0);
+        EDGES.due(dearer, 2, "bestGate", 1, 0);
+        EDGES.due(told(";good a oath u by n age 200 weighs 1 worth 1;good b oath u by m age 10 weighs 9 worth 1;hides b"), 2, "bestGate", 1, 0);
+        EDGES.due(told(";good a oath u by o age 10 weighs 1 worth 1"), 0, "bestGate", 1, 0);
         EDGES.due(Scenes.small(), 0, "bestGate", 0, 60);
         EDGES.promise(20, "NONE: 1; 2.");
         refusals("bestGate", 2, 4);

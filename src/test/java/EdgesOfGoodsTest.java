@@ -42,6 +42,12 @@ public final class EdgesOfGoodsTest {
             EDGES.due(x, age + 300, "age", 0, 0);
             EDGES.due(x, age + 360, "age", 0, 60);
         }
+        SaltedGate each = told(";good a fresh t age 0 weighs 1 worth 1;good b oath u by n age 7 weighs 1 worth 1;good c wine t by o age 300 weighs 1 worth 1");
+        int[] ages = {0, 7, 300};
+        for (int g = 0; g < 3; g++) {
+            EDGES.due(each, ages[g], "age", g, 0);
+            EDGES.due(each, ages[g] + 60, "age", g, 60);
+        }
     }
 
     /** Worths tell what is TURNED: 7 as told, or 0. */
@@ -220,6 +226,14 @@ public final class EdgesOfGoodsTest {
         SaltedGate fresh = told(";good a fresh u age 10 weighs 9 worth 1;hides a");
         EDGES.due(fresh, 0, "found", 1, 2, 0);
         EDGES.due(fresh, 1, "found", 1, 0, 0);
+        // of its traveller, and had by him: eaten, or another's, a fresh one covers nothing
+        SaltedGate covered = told(";good a plain u by n age 10 weighs 9 worth 1;good b fresh u age 0 weighs 1 worth 1;good c fresh t age 0 weighs 1 worth 1;hides a");
+        EDGES.due(covered, 0, "found", 1, 0, 0);
+        EDGES.due(covered, 0, "asked", 1, 0, 0);
+        covered.eat(1);
+        EDGES.due(covered, 1, "found", 1, 0, 0);
+        EDGES.due(covered, 27, "asked", 1, 0, 0);
+        EDGES.due(covered, 27, "cross", 1, 0);
 
         EDGES.terms("II", "hidden ones else are over for nothing;");
         SaltedGate y = told(goods + ";hides a");

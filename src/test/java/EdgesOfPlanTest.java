@@ -114,6 +114,10 @@ public final class EdgesOfPlanTest {
         EDGES.due(left("o day 60"), 1, "fits");
         EDGES.due(left("m day 1", "m day 2", "m day 3", "n day 4", "n day 5"), 32, "fits");
         EDGES.due(told(";crumb m day 0"), 0, "fits");
+        EDGES.due(left("m day 10", "m day 11"), 2, "fits");
+        EDGES.due(left("m day 11", "m day 10"), 2, "fits");
+        EDGES.due(left("m day 51", "m day 50"), 0, "fits");
+        EDGES.due(left("m day 9", "m day 10", "m day 50"), 4, "fits");
         SaltedGate acted = left("m day 10", "n day 10");
         acted.eat(0);
         acted.cross(1, 0);
@@ -255,6 +259,12 @@ public final class EdgesOfPlanTest {
         EDGES.due(x, 5 + 3 * 225, "season", 65536);
         EDGES.due(told(SMELLS), 0, "season", 0);
         EDGES.due(Scenes.small(), 0, "season", 65536);
+        // on the day of the crossing: smells 78 and 29 on day 50, 6 tens of days of c
+        SaltedGate later = told(SMELLS + ";crosses u h day 50 hour 0");
+        for (int seed = 0; seed < 200; seed++) {
+            int due = 30 + (next(seed) % 100 < 78 ? 3 * 270 : 0) + (next(next(seed)) % 100 < 29 ? 3 * 180 : 0);
+            EDGES.due(later, due, "season", seed);
+        }
         // a nose means nothing in it, but a gate that is shut does
         EDGES.due(told(SMELLS + ";crosses u g day 0 hour 9"), 5, "season", 0);
         EDGES.due(told(SMELLS + ";crosses u g day 0 hour 7"), 0, "season", 65536);

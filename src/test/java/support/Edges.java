@@ -21,7 +21,7 @@ final class Edges {
     private int wrong;
     private int asked;
 
-    /** Of which parts the test is: 'Promise 7', 'Terms II', 'Terms III, acts', 'Use', 'Constants'. */
+    /** Of which parts the test is: 'Promise 7', 'Terms II', 'Terms III, acts', 'Use', 'Heads', 'Constants'. */
     Edges(String... names) {
         String document = document();
         for (String name : names) {
@@ -54,6 +54,8 @@ final class Edges {
         switch (name) {
             case "Use":
                 return between(document, "An object is used", "## The public face");
+            case "Heads":
+                return between(document, "Ahead of the calls", "## Promise 1:");
             case "Constants":
                 return between(document, "The constants:", "Ahead of the calls");
             case "Terms I":
