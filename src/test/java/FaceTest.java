@@ -109,5 +109,25 @@ public final class FaceTest {
                 CHECK.due(word + " in: " + line, code.contains(word), false);
             }
         }
+        lengths(source);
+    }
+
+    /** A method ends at the brace that stands as far in as its first line does. */
+    private static void lengths(String source) {
+        String[] lines = source.split("\n");
+        int methods = 0;
+        for (int i = 0; i < lines.length; i++) {
+            if (!lines[i].matches("( {4}| {8})(public|private) .*\\(.*\\{")) {
+                continue;
+            }
+            String end = lines[i].replaceAll("\\S.*", "") + "}";
+            int last = i;
+            while (last < lines.length && !lines[last].equals(end)) {
+                last++;
+            }
+            methods++;
+            CHECK.due("some sixty lines: " + lines[i].trim(), last - i < 60, true);
+        }
+        CHECK.due("methods were seen: " + methods, methods > 100, true);
     }
 }
